@@ -284,6 +284,10 @@ public final class PromisesTest {
             due.is("13 none stands for " + row[0], x.untell(0), 0);
         }
         UpAllRound y = new UpAllRound();
+        UpAllRound stale = new UpAllRound();
+        due.are("13 a shorter one behind a longer one", text(stale, 0, "1234"), 1, text(stale, 0, "12"), 1,
+            stale.law(0, 0, 0, 0), 12, text(stale, 0, "(r)"), 1, text(stale, 0, "(r"), -12, text(stale, 0, "r+s"), 1,
+            text(stale, 0, "r"), 1, stale.law(0, 5, 6, 0), 5);
         due.are("13 names of worth", text(y, 1, "r"), -10, text(y, 1, "h+t"), -12, text(y, 1, "s+h+c"), 1,
             text(y, 0, "c"), -10, y.told(1), 0);
     }
@@ -309,7 +313,9 @@ public final class PromisesTest {
 
     private static void promise15Signs() {
         due.are("15 or and", gives("r|s", 0, 0, 0), 0, gives("r|s", 5, 0, 0), 1, gives("r|s", 0, -3, 0), 1,
-            gives("r&s", 5, 7, 0), 1, gives("r&s", 5, 0, 0), 0, gives("r&s", 0, 0, 0), 0, gives("r|s&t", 1, 0, 0), 1,
+            gives("r&s", 5, 7, 0), 1, gives("r&s", 5, 0, 0), 0, gives("r&s", 0, 0, 0), 0, gives("r&s", 0, 7, 0), 0,
+            gives("r&s", 1, 1, 0), 1, gives("r|s&t", 1, 0, 0), 1, gives("(r|s)&t", 1, 0, 0), 0, gives("(r|s)", 0, 7, 0), 1,
+            gives("(r&s)+1", 3, 7, 0), 2, gives("0", 7, 8, 9), 0,
             gives("r", 5, 0, 0), 5, gives("(r)", -5, 0, 0), -5);
         due.are("15 compare", gives("r<s", -1, 0, 0), 1, gives("r<s", 0, 0, 0), 0, gives("r=s", 4, 4, 0), 1,
             gives("r=s", 4, 5, 0), 0, gives("r>s", 5, 4, 0), 1, gives("r>s", 4, 4, 0), 0, gives("r+1<s*2", 2, 2, 0), 1);
@@ -441,6 +447,23 @@ public final class PromisesTest {
         UpAllRound far = new UpAllRound();
         far.build(14);
         due.are("20 a drunk and a porter", far.climber(0, 0), 0, far.climber(38, 4), 1, far.meet(0, 1), 10);
+        due.are("20 the last minute", meetLate(9, 37, 39, 1), 200, meetLate(16, 34, 35, 8), 200, meetLate(8, 37, 39, 10), NONE,
+            meetLate(15, 34, 35, 6), NONE);
+        UpAllRound lift = with(0, 0, 64, 3);
+        lift.minutes(2);
+        due.are("20 by minutes", lift.carry(0, 0), 2, lift.carry(1, 3), 0, lift.meet(0, 1), 15);
+    }
+
+    /** Two, at 0 and another of eleven steps, so many minutes late. */
+    private static int meetLate(int minutes, int km, int other, int step) {
+        UpAllRound x = new UpAllRound();
+        x.build(11);
+        x.climber(km, 0);
+        x.climber(other, 0);
+        x.minutes(minutes);
+        x.carry(0, 0);
+        x.carry(1, step);
+        return x.meet(0, 1);
     }
 
     private static void promise21() {
@@ -465,26 +488,17 @@ public final class PromisesTest {
         UpAllRound x = new UpAllRound();
         due.are("22 nobody", x.together(), STATE, x.climber(0, 3), 0, x.together(), 0, x.climber(20, 7), 1, x.together(), 2,
             x.climber(0, 4), 2, x.together(), NONE, x.count(2), 0);
-        UpAllRound long1 = new UpAllRound();
-        long1.build(13);
-        long1.climber(0, 0);
-        long1.climber(11, 1);
-        long1.climber(69, 12);
-        due.is("22 far on", long1.together(), together(13));
+        due.are("22 the last minute", togetherOf(37, 8, 38, 7, 68, 11), 500, togetherOf(39, 4, 35, 7, 63, 8), 500,
+            togetherOf(38, 11, 37, 12, 34, 10), NONE, togetherOf(4, 11, 39, 9, 36, 12), NONE);
     }
 
-    /** The same by plain counting: a porter at 0, one that runs by 2 at 1, a lift of 9 at 12. */
-    private static int together(int n) {
-        int[] at = {0, 1, 12};
-        for (int t = 0; t <= 500; t++) {
-            if (at[0] == at[1] && at[1] == at[2]) {
-                return t;
-            }
-            at[0] = (at[0] + 1) % n;
-            at[1] = (at[1] + 2) % n;
-            at[2] = (at[2] + (t % 4 == 0 ? 10 : 0)) % n;
+    private static int togetherOf(int... kmsAndSteps) {
+        UpAllRound x = new UpAllRound();
+        x.build(13);
+        for (int i = 0; i < 6; i += 2) {
+            x.climber(kmsAndSteps[i], kmsAndSteps[i + 1]);
         }
-        return NONE;
+        return x.together();
     }
 
     private static void promise23() {
@@ -492,6 +506,9 @@ public final class PromisesTest {
         due.are("23", x.dispute(), NONE, x.climber(0, 0), 0, x.dispute(), NONE, x.climber(0, 0), 1, x.dispute(), NONE,
             x.height(1, 1), 0, x.dispute(), 0, x.carry(1, 1), 0, x.dispute(), NONE, x.climber(20, 6), 2, x.dispute(), 3,
             x.count(2), 0);
+        UpAllRound late = with(0, 0, 40, 0);
+        due.are("23 the last minute", text(late, 0, "(t>198)*5"), 1, late.dispute(), 200, text(late, 0, "(t>199)*5"), 1,
+            late.dispute(), NONE);
         UpAllRound y = with(0, 0, 20, 4);
         y.height(0, -4);
         due.are("23 alike when they meet first", y.meet(0, 1), 2, y.dispute(), 6);
@@ -521,6 +538,11 @@ public final class PromisesTest {
             x.rise(i, 9);
         }
         due.are("24 the most", x.levels(126, 0), 0, x.levels(-126, 0), NONE, x.levels(0, 0), 14, x.levels(0, 1), 0x3FFF);
+        for (int i = 0; i < 14; i++) {
+            x.rise(i, -9);
+        }
+        due.are("24 the least", x.levels(-126, 0), 0, x.levels(126, 0), NONE, x.levels(0, 0), 14, x.levels(0, 1), 0x3FFF,
+            x.levels(-117, 1), 1, x.levels(-9, 1), 0x1FFF, x.levels(-10, 1), NONE);
     }
 
     private static void promise25() {
@@ -661,8 +683,9 @@ public final class PromisesTest {
         due.are("32", x.move(0, 3, 1, 1, 2), 2, x.rises(1), 3, x.stepIs(0, 0), 0, x.stepIs(1, 0), 4, x.stepIs(2, 0), 5,
             x.move(0, 0, 0, 1, 4), 4, x.rises(0), 5, x.stepIs(0, 0), 1, x.stepIs(1, 0), 1, x.stepIs(2, 0), 2,
             x.stepIs(4, 0), 4, x.move(0, 1, 0, 0, 4), 4, x.rises(0), 5, x.stepIs(0, 0), 1, x.stepIs(1, 0), 2, x.stepIs(3, 0), 4,
-            x.move(0, 5, 1, 3, 0), 0, x.move(0, 0, 1, 0, 0), 0);
-        due.are("32 wrong", x.move(4, 0, 3, 0, -1), BEYOND, x.move(0, 0, -1, 0, 0), BEYOND, x.move(0, 0, 3, 0, -1), NONE,
+            x.move(0, 0, 0, 0, 5), 5, x.move(1, 0, 0, 2, 3), 3, x.rises(0), 5, x.stepIs(1, 0), 2, x.stepIs(3, 0), 4,
+            x.stepIs(4, 0), 5, x.move(0, 5, 1, 3, 0), 0, x.move(0, 0, 1, 0, 0), 0);
+        due.are("32 wrong", x.move(4, 0, 3, 0, -1), BEYOND, x.move(0, 0, -1, 0, 0), BEYOND, x.move(-1, 0, 0, 0, 0), BEYOND, x.move(0, 0, 4, 0, 0), BEYOND, x.move(0, 0, 3, 0, -1), NONE,
             x.move(3, 0, 0, 0, -1), NONE, x.move(0, 0, 2, 0, -1), KIND, x.move(0, 0, 1, 0, -1), BEYOND,
             x.move(0, -1, 1, 0, 1), BEYOND, x.move(0, 0, 1, -1, 1), BEYOND, x.move(0, 0, 1, 0, 4), BEYOND,
             x.move(0, 5, 1, 0, 1), BEYOND, x.move(0, 0, 1, 3, 1), BEYOND, x.move(0, 6, 1, 0, 0), BEYOND,
@@ -675,6 +698,9 @@ public final class PromisesTest {
         due.are("33", x.rises(0), 3, x.stepIs(0, 0), 9, x.stepIs(1, 0), -9, x.stepIs(2, 0), 0, x.stepIs(3, 0), 1,
             x.stepIs(4, 0), 1, x.put(0, 0, -10), 1, x.rises(0), 0, x.stepIs(0, 0), 9);
         row(x, 1, 32, 2, 2, 2, 2, 2, 2, 2, 3, 4, 5);
+        row(x, 2, 16, 4, 5);
+        due.are("33 fewer", x.rises(2), 2, x.stepIs(1, 0), 5, x.stepIs(2, 0), 0, x.rise(2, 1), 0, x.rises(2), 2, x.stepIs(2, 0), 1,
+            x.sheet(2, 0, 0), 1);
         due.are("33 no step", x.rises(1), 8, x.stepIs(7, 0), 3, x.sheet(1, 32, 0), 1, x.rises(1), 0,
             x.rises(2), NONE, x.rises(4), BEYOND, x.rises(-1), BEYOND, x.told(1), 2);
     }
@@ -683,7 +709,7 @@ public final class PromisesTest {
         UpAllRound x = with(0, 3, 0, 0, 0, 7);
         row(x, 0, 8, 3, 0, 7, 0);
         due.are("34", x.judge(0), 3, x.put(0, 0, 4), 1, x.judge(0), 0, x.put(0, 0, 3), 1, x.put(0, 1, 1), 1, x.judge(0), 1,
-            x.judge(1), NONE, x.judge(4), BEYOND, x.judge(-1), BEYOND, x.climberIs(1, 2), 0);
+            x.judge(1), NONE, x.judge(3), NONE, x.judge(4), BEYOND, x.judge(-1), BEYOND, x.climberIs(1, 2), 0);
         row(x, 1, 8, 3);
         due.are("34 fewer", x.judge(1), 1, x.sheet(1, 8, 0), 1, x.judge(1), 0);
     }
@@ -695,7 +721,7 @@ public final class PromisesTest {
         x.rise(2, 5);
         x.hide(3);
         text(x, 0, "r+1");
-        feed(x, "abc");
+        feed(x, "r+2");
         x.tell(4);
         x.seed(99);
         int height = x.climberIs(0, 3);
@@ -707,14 +733,14 @@ public final class PromisesTest {
         x.rise(2, 6);
         x.hide(-1);
         x.untell(0);
-        text(x, 1, "7");
-        x.feed(0, 1);
-        x.tell(4);
+        x.text(0);
+        text(x, 1, "7777");
         x.check();
+        x.tell(height);
         x.sheet(0, 8, 3);
         due.are("36", x.restore(), 7, x.count(0), 2, x.count(2), 7, x.count(3), 3, x.count(5), 3, x.count(6), 1, x.count(8), 99,
             x.stepIs(2, 0), 5, x.climberIs(0, 0), 0, x.climberIs(0, 3), height, x.climberIs(1, 2), place,
-            x.law(0, 5, 0, 0), 6, x.law(1, 0, 5, 0), 5, x.judge(0), 0, x.text(0), -10, x.count(5), 0, x.check(), 1);
+            x.law(0, 5, 0, 0), 6, x.law(1, 0, 5, 0), 5, x.judge(0), 0, x.text(0), 1, x.law(0, 5, 0, 0), 7, x.count(5), 0, x.check(), 1);
         due.are("36 stays", x.minutes(3), 0, x.restore(), 7, x.restore(), 7, x.count(5), 3, x.minutes(1), 0, x.image(), 2,
             x.minutes(1), 0, x.restore(), 8, x.image(), 3, x.told(2), 1);
         UpAllRound y = new UpAllRound();
