@@ -347,9 +347,11 @@ public final class UpAllRound {
         if (sheets.isMissing(sheet)) {
             return refuse(NONE);
         }
-        int set = isSoWithout(NO_ONE, climber, sheet) ? 1 << now.steps : 0;
-        for (int step = 0; step < now.steps; step++) {
-            if (isSoWithout(step, climber, sheet)) {
+        int set = 0;
+        for (int step = 0; step <= now.steps; step++) {
+            thought.copyWalk(now);
+            thought.none = step < now.steps ? step : NO_ONE;
+            if (thought.goesAs(climber, sheets.numbers[sheet], sheets.sizes[sheet])) {
                 set |= 1 << step;
             }
         }
@@ -563,20 +565,6 @@ public final class UpAllRound {
 
     private boolean isPair(int one, int other) {
         return now.hasClimber(one) && now.hasClimber(other) && one != other;
-    }
-
-    /** Whether the sheet's heights come of the climber's way, if that step were the one that is none. */
-    private boolean isSoWithout(int step, int climber, int sheet) {
-        thought.copyWalk(now);
-        thought.none = step;
-        int size = sheets.sizes[sheet];
-        for (int i = 0; i < size; i++) {
-            thought.passFor(climber);
-            if (thought.heights[climber] != sheets.numbers[sheet][i]) {
-                return false;
-            }
-        }
-        return true;
     }
 
     /** A table in place of all sets: fourteen steps have 16384 of them. */
@@ -808,6 +796,16 @@ public final class UpAllRound {
             minute++;
         }
 
+        private boolean goesAs(int climber, int[] said, int size) {
+            for (int i = 0; i < size && i < said.length; i++) {
+                passFor(climber);
+                if (heights[climber] != said[i]) {
+                    return false;
+                }
+            }
+            return true;
+        }
+
         /** Where climbers are does not depend on their heights, so these may be left as they are. */
         private void passUncounted() {
             for (int i = 0; i < climbers; i++) {
@@ -898,7 +896,7 @@ public final class UpAllRound {
                 int token = code[i];
                 if (token == -'!') {
                     if (top > 0) {
-                        stack[top - 1] = truth(stack[top - 1] == 0);
+                        stack[top - 1] = stack[top - 1] == 0 ? 1 : 0;
                     }
                 } else if (token < NAME - 2) {
                     if (top > 1) {
@@ -916,15 +914,15 @@ public final class UpAllRound {
         private static int join(int sign, int left, int right) {
             switch (sign) {
                 case '|':
-                    return truth(left != 0 || right != 0);
+                    return left != 0 || right != 0 ? 1 : 0;
                 case '&':
-                    return truth(left != 0 && right != 0);
+                    return left != 0 && right != 0 ? 1 : 0;
                 case '<':
-                    return truth(left < right);
+                    return left < right ? 1 : 0;
                 case '=':
-                    return truth(left == right);
+                    return left == right ? 1 : 0;
                 case '>':
-                    return truth(left > right);
+                    return left > right ? 1 : 0;
                 case '+':
                     return left + right;
                 case '-':
@@ -938,10 +936,6 @@ public final class UpAllRound {
                 default:
                     return 0;
             }
-        }
-
-        private static int truth(boolean v) {
-            return v ? 1 : 0;
         }
     }
 

@@ -287,7 +287,8 @@ public final class PromisesTest {
         UpAllRound stale = new UpAllRound();
         due.are("13 a shorter one behind a longer one", text(stale, 0, "1234"), 1, text(stale, 0, "12"), 1,
             stale.law(0, 0, 0, 0), 12, text(stale, 0, "(r)"), 1, text(stale, 0, "(r"), -12, text(stale, 0, "r+s"), 1,
-            text(stale, 0, "r"), 1, stale.law(0, 5, 6, 0), 5);
+            text(stale, 0, "r"), 1, stale.law(0, 5, 6, 0), 5,
+            text(stale, 0, "!s"), 1, text(stale, 0, "s"), 1, stale.law(0, 5, 6, 0), 6);
         due.are("13 names of worth", text(y, 1, "r"), -10, text(y, 1, "h+t"), -12, text(y, 1, "s+h+c"), 1,
             text(y, 0, "c"), -10, y.told(1), 0);
     }
@@ -737,6 +738,7 @@ public final class PromisesTest {
         text(x, 1, "7777");
         x.check();
         x.tell(height);
+        x.tell(4);
         x.sheet(0, 8, 3);
         due.are("36", x.restore(), 7, x.count(0), 2, x.count(2), 7, x.count(3), 3, x.count(5), 3, x.count(6), 1, x.count(8), 99,
             x.stepIs(2, 0), 5, x.climberIs(0, 0), 0, x.climberIs(0, 3), height, x.climberIs(1, 2), place,
