@@ -50,7 +50,7 @@ public final class ModelTest {
                 one(due, face.get("climber"), x, model, run, new long[] {between(0, 69), between(0, 7)});
             }
         }
-        for (int i = 0; i < CALLS - 8; i++) {
+        for (int i = 0; i < CALLS - 32; i++) {
             String name = names[draw(names.length)];
             if (name.equals("levels") && draw(4) != 0) {
                 continue;
@@ -58,8 +58,43 @@ public final class ModelTest {
             if (name.equals("text") && draw(3) != 0) {
                 i += feedText(due, face.get("feed"), x, model, run);
             }
+            if (x.count(0) > 0 && draw(2) == 0) {
+                i += tellTruth(due, face, name, x, model, run);
+            }
             one(due, face.get(name), x, model, run, arguments(name, x, wild));
         }
+    }
+
+    /** What draws alone would hardly hit on: numbers that are so, or nearly all so. */
+    private static int tellTruth(Due due, Map<String, Method> face, String name, UpAllRound x, Model model, int run)
+            throws ReflectiveOperationException {
+        int n = between(1, 8);
+        if (name.equals("suspects")) {
+            int climber = draw(x.count(0));
+            one(due, face.get("hide"), x, model, run, new long[] {between(-1, x.count(1) - 1)});
+            one(due, face.get("sheet"), x, model, run, new long[] {0, 32, n});
+            for (int i = 0; i < n; i++) {
+                one(due, face.get("put"), x, model, run, new long[] {0, i, x.then(i + 1, climber, 1)});
+            }
+            one(due, face.get("suspects"), x, model, run, new long[] {climber, 0});
+            return n + 3;
+        }
+        if (name.equals("judge")) {
+            one(due, face.get("sheet"), x, model, run, new long[] {0, 8, n});
+            for (int i = 0; i < n; i++) {
+                one(due, face.get("put"), x, model, run, new long[] {0, i, i < x.count(0) ? x.climberIs(i, 2) : draw(4)});
+            }
+            one(due, face.get("judge"), x, model, run, new long[] {0});
+            return n + 2;
+        }
+        if (name.equals("check")) {
+            one(due, face.get("check"), x, model, run, new long[0]);
+            for (int i = 0; i < n; i++) {
+                one(due, face.get("tell"), x, model, run, new long[] {i < x.count(0) ? x.climberIs(i, 3) : 0});
+            }
+            return n + 1;
+        }
+        return 0;
     }
 
     private static int feedText(Due due, Method feed, UpAllRound x, Model model, int run) throws ReflectiveOperationException {
