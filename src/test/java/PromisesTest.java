@@ -91,39 +91,8 @@ public final class PromisesTest {
         promise40();
     }
 
-    private static int feed(UpAllRound x, String signs) {
-        int answer = 0;
-        for (int i = 0; i < signs.length(); i++) {
-            answer = x.feed(signs.charAt(i), 1);
-        }
-        return answer;
-    }
-
-    private static int text(UpAllRound x, int use, String signs) {
-        feed(x, signs);
-        return x.text(use);
-    }
-
-    /** What a counted text gives for r, s, t. */
     private static int gives(String signs, int r, int s, int t) {
-        UpAllRound x = new UpAllRound();
-        due.is("text " + signs, text(x, 0, signs), 1);
-        return x.law(0, r, s, t);
-    }
-
-    private static UpAllRound with(int... kmsAndSteps) {
-        UpAllRound x = new UpAllRound();
-        for (int i = 0; i + 1 < kmsAndSteps.length; i += 2) {
-            x.climber(kmsAndSteps[i], kmsAndSteps[i + 1]);
-        }
-        return x;
-    }
-
-    private static void row(UpAllRound x, int sheet, int bits, int... numbers) {
-        x.sheet(sheet, bits, numbers.length);
-        for (int i = 0; i < numbers.length; i++) {
-            x.put(sheet, i, numbers[i]);
-        }
+        return Make.gives(signs, r, s, t);
     }
 
     private static void promise1() {
@@ -156,7 +125,7 @@ public final class PromisesTest {
     }
 
     private static void promise4() {
-        UpAllRound x = with(0, 3, 10, 3, 20, 4);
+        UpAllRound x = Make.with(0, 3, 10, 3, 20, 4);
         x.hide(4);
         x.rise(4, -3);
         due.are("4", x.stepIs(3, 2), 2, x.stepIs(4, 2), 1, x.stepIs(5, 2), 0, x.stepIs(4, 1), 1, x.stepIs(3, 1), 0,
@@ -180,7 +149,7 @@ public final class PromisesTest {
     }
 
     private static void promise7() {
-        UpAllRound x = with(0, 0, 15, 1, 29, 2, 32, 3, 48, 4, 57, 5);
+        UpAllRound x = Make.with(0, 0, 15, 1, 29, 2, 32, 3, 48, 4, 57, 5);
         due.are("7", x.climberIs(0, 4), 1, x.climberIs(1, 4), 3, x.climberIs(2, 4), -1, x.climberIs(3, 4), -1,
             x.climberIs(4, 4), 3, x.climberIs(5, 4), -3, x.climberIs(4, 0), 4, x.climberIs(4, 1), 8,
             x.climberIs(4, 2), 4, x.climberIs(6, 0), BEYOND, x.climberIs(-1, 0), BEYOND,
@@ -191,14 +160,14 @@ public final class PromisesTest {
             due.are("7 minute " + i, x.climberIs(3, 4), drunkAndLift[2 * i], x.climberIs(0, 4), drunkAndLift[2 * i + 1]);
             x.minutes(1);
         }
-        UpAllRound y = with(30, 0);
+        UpAllRound y = Make.with(30, 0);
         y.minutes(1);
         due.is("7 a drunk of 0", y.climberIs(0, 4), -1);
         due.is("7 nobody", new UpAllRound().climberIs(0, 0), BEYOND);
     }
 
     private static void promise8() {
-        UpAllRound x = with(35, 6);
+        UpAllRound x = Make.with(35, 6);
         x.height(0, 12);
         due.are("8", x.become(0, 69), 3, x.climberIs(0, 0), 6, x.climberIs(0, 1), 9, x.climberIs(0, 2), 6,
             x.climberIs(0, 3), 12, x.become(0, 0), 6, x.become(0, 70), BEYOND, x.become(0, -1), BEYOND,
@@ -208,7 +177,7 @@ public final class PromisesTest {
     private static void promise9() {
         int[] sets = {1, 1 | 2, 1 | 4, 1 | 8, 1 | 2 | 16, 1 | 4 | 32, 1 | 64};
         for (int kind = 0; kind < 7; kind++) {
-            UpAllRound x = with(kind * 10 + kind + 2, 0);
+            UpAllRound x = Make.with(kind * 10 + kind + 2, 0);
             for (int as = 0; as < 7; as++) {
                 boolean is = (sets[kind] >> as & 1) == 1;
                 due.is("9 " + kind + " as " + as, x.as(0, as), is ? kind + 2 : KIND);
@@ -218,7 +187,7 @@ public final class PromisesTest {
     }
 
     private static void promise10() {
-        UpAllRound x = with(0, 6);
+        UpAllRound x = Make.with(0, 6);
         x.height(0, 5);
         due.are("10", x.carry(0, 7), 6, x.carry(0, 0), 7, x.climberIs(0, 2), 0, x.climberIs(0, 3), 5,
             x.carry(0, 8), BEYOND, x.carry(0, -1), BEYOND, x.carry(1, 0), BEYOND, x.carry(-1, 0), BEYOND,
@@ -226,7 +195,7 @@ public final class PromisesTest {
     }
 
     private static void promise11() {
-        UpAllRound x = with(0, 6);
+        UpAllRound x = Make.with(0, 6);
         due.are("11", x.height(0, 9999), 0, x.height(0, -9999), 9999, x.height(0, 10000), BEYOND,
             x.height(0, -10000), BEYOND, x.height(1, 0), BEYOND, x.height(-1, 0), BEYOND, x.climberIs(0, 3), -9999);
     }
@@ -253,9 +222,9 @@ public final class PromisesTest {
 
     private static void promise13() {
         UpAllRound x = new UpAllRound();
-        due.are("13", text(x, 0, "r+1"), 1, x.count(5), 0, x.law(0, 5, 0, 0), 6, text(x, 0, "r+"), -12,
-            x.count(5), 0, x.law(0, 5, 0, 0), 6, feed(x, "r*2"), 3, x.text(2), BEYOND, x.text(-1), BEYOND, x.count(5), 3,
-            x.text(0), 1, x.law(0, 5, 0, 0), 10, x.law(1, 5, 7, 0), 7, text(x, 1, "s*h+c"), 1, x.law(1, 5, 7, 2), 37,
+        due.are("13", Make.text(x, 0, "r+1"), 1, x.count(5), 0, x.law(0, 5, 0, 0), 6, Make.text(x, 0, "r+"), -12,
+            x.count(5), 0, x.law(0, 5, 0, 0), 6, Make.feed(x, "r*2"), 3, x.text(2), BEYOND, x.text(-1), BEYOND, x.count(5), 3,
+            x.text(0), 1, x.law(0, 5, 0, 0), 10, x.law(1, 5, 7, 0), 7, Make.text(x, 1, "s*h+c"), 1, x.law(1, 5, 7, 2), 37,
             x.law(0, 5, 0, 0), 10, x.text(0), -10, x.law(0, 5, 0, 0), 10, x.told(1), 2);
     }
 
@@ -264,11 +233,11 @@ public final class PromisesTest {
             "r*s/t%2", "!r", "!!!!!r", "!(!(!r))", "!!!!(r)", "(((((r)))))", "(r<s)<t", "(((((1)))))+(((((2)))))", "!1+!2", "1-!2*!(r)"};
         for (String signs : right) {
             UpAllRound x = new UpAllRound();
-            due.is("13 " + signs, text(x, 0, signs), 1);
+            due.is("13 " + signs, Make.text(x, 0, signs), 1);
         }
         String long60 = "1+2+3+4+5+6+7+8+9+1+2+3+4+5+6+7+8+9+1+2+3+4+5+6+7+8+9+1+2345";
         UpAllRound x = new UpAllRound();
-        due.are("13 the longest", long60.substring(0, 60).length(), 60, text(x, 0, long60.substring(0, 60)), 1,
+        due.are("13 the longest", long60.substring(0, 60).length(), 60, Make.text(x, 0, long60.substring(0, 60)), 1,
             x.law(0, 0, 0, 0), 99);
     }
 
@@ -280,23 +249,23 @@ public final class PromisesTest {
         for (Object[] row : wrong) {
             UpAllRound x = new UpAllRound();
             int fault = (Integer) row[1];
-            due.is("13 fault of " + row[0], text(x, 0, (String) row[0]), -10 - fault);
+            due.is("13 fault of " + row[0], Make.text(x, 0, (String) row[0]), -10 - fault);
             due.is("13 none stands for " + row[0], x.untell(0), 0);
         }
         UpAllRound y = new UpAllRound();
         UpAllRound stale = new UpAllRound();
-        due.are("13 a shorter one behind a longer one", text(stale, 0, "1234"), 1, text(stale, 0, "12"), 1,
-            stale.law(0, 0, 0, 0), 12, text(stale, 0, "(r)"), 1, text(stale, 0, "(r"), -12, text(stale, 0, "r+s"), 1,
-            text(stale, 0, "r"), 1, stale.law(0, 5, 6, 0), 5,
-            text(stale, 0, "!s"), 1, text(stale, 0, "s"), 1, stale.law(0, 5, 6, 0), 6);
-        due.are("13 names of worth", text(y, 1, "r"), -10, text(y, 1, "h+t"), -12, text(y, 1, "s+h+c"), 1,
-            text(y, 0, "c"), -10, y.told(1), 0);
+        due.are("13 a shorter one behind a longer one", Make.text(stale, 0, "1234"), 1, Make.text(stale, 0, "12"), 1,
+            stale.law(0, 0, 0, 0), 12, Make.text(stale, 0, "(r)"), 1, Make.text(stale, 0, "(r"), -12, Make.text(stale, 0, "r+s"), 1,
+            Make.text(stale, 0, "r"), 1, stale.law(0, 5, 6, 0), 5,
+            Make.text(stale, 0, "!s"), 1, Make.text(stale, 0, "s"), 1, stale.law(0, 5, 6, 0), 6);
+        due.are("13 names of worth", Make.text(y, 1, "r"), -10, Make.text(y, 1, "h+t"), -12, Make.text(y, 1, "s+h+c"), 1,
+            Make.text(y, 0, "c"), -10, y.told(1), 0);
     }
 
     private static void promise14() {
         UpAllRound x = new UpAllRound();
-        text(x, 0, "7");
-        text(x, 1, "8");
+        Make.text(x, 0, "7");
+        Make.text(x, 1, "8");
         due.are("14", x.law(0, 1, 1, 1), 7, x.untell(0), 1, x.untell(0), 0, x.law(0, 1, 1, 1), 1, x.law(1, 1, 2, 1), 8,
             x.untell(2), BEYOND, x.untell(-1), BEYOND, x.untell(1), 1, x.law(1, 1, 2, 1), 2);
     }
@@ -306,8 +275,8 @@ public final class PromisesTest {
         due.are("15 no text", x.law(0, 99, 5, 5), 99, x.law(0, 100, 5, 5), 99, x.law(0, -99, 0, 0), -99,
             x.law(0, MIN, 0, 0), -99, x.law(1, 5, 999, 5), 999, x.law(1, 5, 1000, 5), 999, x.law(1, 5, -1, 5), 0,
             x.law(1, 5, MAX, 5), 999, x.law(2, 0, 0, 0), BEYOND, x.law(-1, 0, 0, 0), BEYOND);
-        text(x, 0, "r*s+t");
-        text(x, 1, "s*100+h*10+c");
+        Make.text(x, 0, "r*s+t");
+        Make.text(x, 1, "s*100+h*10+c");
         due.are("15 names", x.law(0, 2, 3, 4), 10, x.law(0, -20, 30, 4), -99, x.law(0, 20, 30, 4), 99,
             x.law(1, 1, 2, 3), 123, x.law(1, 10, 2, 3), 999, x.law(1, 0, -2, 3), 0);
     }
@@ -331,7 +300,7 @@ public final class PromisesTest {
     }
 
     private static void promise16() {
-        UpAllRound x = with(0, 0, 20, 4, 0, 0, 0, 7);
+        UpAllRound x = Make.with(0, 0, 20, 4, 0, 0, 0, 7);
         due.are("16", x.minutes(0), BEYOND, x.minutes(201), BEYOND, x.minutes(MIN), BEYOND, x.count(2), 0,
             x.minutes(1), 1, x.count(2), 1, x.minutes(1), 3, x.climberIs(1, 2), 2, x.climberIs(3, 2), 1,
             x.climberIs(0, 3), 2, x.climberIs(1, 3), -2, x.minutes(200), 3, x.count(2), 202);
@@ -344,14 +313,14 @@ public final class PromisesTest {
     }
 
     private static void promise16Goes() {
-        UpAllRound x = with(0, 7, 12, 7, 20, 0, 31, 0, 41, 6, 52, 1);
+        UpAllRound x = Make.with(0, 7, 12, 7, 20, 0, 31, 0, 41, 6, 52, 1);
         x.minutes(1);
         due.are("16 where", x.climberIs(0, 2), 0, x.climberIs(1, 2), 2, x.climberIs(2, 2), 7, x.climberIs(3, 2), 7,
             x.climberIs(4, 2), 0, x.climberIs(5, 2), 5);
         x.minutes(1);
         due.are("16 where then", x.climberIs(0, 2), 1, x.climberIs(1, 2), 5, x.climberIs(2, 2), 6, x.climberIs(3, 2), 0,
             x.climberIs(4, 2), 2, x.climberIs(5, 2), 1);
-        UpAllRound lift = with(69, 0);
+        UpAllRound lift = Make.with(69, 0);
         lift.minutes(1);
         due.is("16 a lift", lift.climberIs(0, 2), 2);
         lift.minutes(3);
@@ -361,7 +330,7 @@ public final class PromisesTest {
     }
 
     private static void promise16Tallies() {
-        UpAllRound x = with(0, 0, 12, 0, 20, 3, 30, 3, 42, 0, 51, 3);
+        UpAllRound x = Make.with(0, 0, 12, 0, 20, 3, 30, 3, 42, 0, 51, 3);
         x.rise(0, 5);
         x.rise(1, -4);
         x.rise(2, 0);
@@ -376,11 +345,11 @@ public final class PromisesTest {
         x.minutes(1);
         due.are("16 none counts 0", x.climberIs(0, 3), 5, x.climberIs(2, 3), 0, x.climberIs(4, 3), 0,
             x.climberIs(5, 3), -2 - 10 - 2);
-        UpAllRound y = with(12, 0);
-        text(y, 0, "s*10+t");
+        UpAllRound y = Make.with(12, 0);
+        Make.text(y, 0, "s*10+t");
         y.minutes(2);
         due.is("16 by a text", y.climberIs(0, 3), 0 + 10 + 20 + 31 + 41 + 51);
-        UpAllRound held = with(12, 0, 52, 0);
+        UpAllRound held = Make.with(12, 0, 52, 0);
         held.rise(0, 9);
         held.rise(1, -9);
         held.rise(2, -1);
@@ -394,7 +363,7 @@ public final class PromisesTest {
         UpAllRound x = new UpAllRound();
         due.are("17 nobody", x.loose(40), 0, x.count(8), 1, x.count(2), 40, x.loose(0), BEYOND, x.loose(41), BEYOND,
             x.loose(-1), BEYOND, x.count(2), 40);
-        UpAllRound y = with(0, 0, 20, 0);
+        UpAllRound y = Make.with(0, 0, 20, 0);
         int z = 1;
         int[] at = {0, 0};
         for (int i = 0; i < 5; i++) {
@@ -407,7 +376,7 @@ public final class PromisesTest {
             due.are("17 minute " + i, y.loose(1), at[0] == at[1] ? 1 : 0, y.count(8), z, y.climberIs(0, 2), at[0],
                 y.climberIs(1, 2), at[1], y.climberIs(0, 3), i + 1, y.climberIs(1, 3), -i - 1);
         }
-        UpAllRound late = with(0, 0);
+        UpAllRound late = Make.with(0, 0);
         for (int i = 0; i < 49; i++) {
             late.minutes(200);
         }
@@ -416,7 +385,7 @@ public final class PromisesTest {
     }
 
     private static void promise18() {
-        UpAllRound x = with(0, 0);
+        UpAllRound x = Make.with(0, 0);
         due.are("18", x.seed(MIN), 1, x.seed(-1000000001), MIN, x.seed(7), -1000000001, x.count(8), 7, x.told(1), 0);
         x.loose(1);
         int z = 7 * 1103515245 + 12345;
@@ -424,25 +393,25 @@ public final class PromisesTest {
     }
 
     private static void promise19() {
-        UpAllRound x = with(12, 0, 20, 5);
+        UpAllRound x = Make.with(12, 0, 20, 5);
         due.are("19", x.then(0, 0, 0), 0, x.then(0, 0, 1), 0, x.then(3, 0, 0), 1, x.then(3, 0, 1), 9, x.then(200, 1, 0), 5,
             x.then(200, 1, 1), -200, x.then(201, 0, 0), BEYOND, x.then(-1, 0, 0), BEYOND, x.then(0, 2, 0), BEYOND,
             x.then(0, -1, 0), BEYOND, x.then(0, 0, 2), BEYOND, x.then(0, 0, -1), BEYOND, x.count(2), 0,
             x.climberIs(0, 2), 0, x.climberIs(0, 3), 0);
-        text(x, 0, "t");
+        Make.text(x, 0, "t");
         due.is("19 by minutes", x.then(4, 1, 1), -0 - 1 - 2 - 3);
-        UpAllRound late = with(0, 0);
+        UpAllRound late = Make.with(0, 0);
         for (int i = 0; i < 49; i++) {
             late.minutes(200);
         }
         late.minutes(199);
-        text(late, 0, "t>9999+1");
+        Make.text(late, 0, "t>9999+1");
         late.height(0, 0);
         due.are("19 beyond the last minute", late.count(2), 9999, late.then(5, 0, 1), 3, late.count(2), 9999);
     }
 
     private static void promise20() {
-        UpAllRound x = with(0, 0, 20, 4, 0, 1, 10, 0);
+        UpAllRound x = Make.with(0, 0, 20, 4, 0, 1, 10, 0);
         due.are("20", x.meet(0, 1), 2, x.meet(1, 0), 2, x.meet(0, 2), NONE, x.meet(0, 3), 0, x.meet(0, 0), BEYOND,
             x.meet(0, 4), BEYOND, x.meet(4, 0), BEYOND, x.meet(-1, 0), BEYOND, x.meet(7, 7), BEYOND, x.count(2), 0);
         UpAllRound far = new UpAllRound();
@@ -450,7 +419,7 @@ public final class PromisesTest {
         due.are("20 a drunk and a porter", far.climber(0, 0), 0, far.climber(38, 4), 1, far.meet(0, 1), 10);
         due.are("20 the last minute", meetLate(9, 37, 39, 1), 200, meetLate(16, 34, 35, 8), 200, meetLate(8, 37, 39, 10), NONE,
             meetLate(15, 34, 35, 6), NONE);
-        UpAllRound lift = with(0, 0, 64, 3);
+        UpAllRound lift = Make.with(0, 0, 64, 3);
         lift.minutes(2);
         due.are("20 by minutes", lift.carry(0, 0), 2, lift.carry(1, 3), 0, lift.meet(0, 1), 15);
     }
@@ -468,19 +437,19 @@ public final class PromisesTest {
     }
 
     private static void promise21() {
-        UpAllRound x = with(0, 3, 12, 0, 20, 0, 61, 0, 30, 0);
+        UpAllRound x = Make.with(0, 3, 12, 0, 20, 0, 61, 0, 30, 0);
         x.rise(0, 4);
         x.height(0, 100);
         due.are("21", x.lap(0, 0), 8, x.lap(0, 1), 11, x.lap(1, 0), 8, x.lap(1, 1), 33, x.lap(2, 1), -11, x.lap(3, 0), 13,
             x.lap(3, 1), 0, x.lap(4, 0), 8, x.lap(5, 0), BEYOND, x.lap(-1, 0), BEYOND, x.lap(0, 2), BEYOND, x.lap(0, -1), BEYOND);
         x.minutes(1);
         due.are("21 a lift that stands", x.lap(3, 0), 1, x.lap(3, 1), 0);
-        UpAllRound sway = with(31, 0);
+        UpAllRound sway = Make.with(31, 0);
         due.are("21 there and back", sway.lap(0, 0), 2, sway.lap(0, 1), 0);
-        UpAllRound top = with(0, 0);
+        UpAllRound top = Make.with(0, 0);
         top.height(0, 9998);
         due.is("21 held", top.lap(0, 1), 1);
-        UpAllRound never = with(0, 0);
+        UpAllRound never = Make.with(0, 0);
         never.become(0, 67);
         due.are("21 a lift that goes all round", never.lap(0, 0), 1, never.told(2), 0);
     }
@@ -507,10 +476,10 @@ public final class PromisesTest {
         due.are("23", x.dispute(), NONE, x.climber(0, 0), 0, x.dispute(), NONE, x.climber(0, 0), 1, x.dispute(), NONE,
             x.height(1, 1), 0, x.dispute(), 0, x.carry(1, 1), 0, x.dispute(), NONE, x.climber(20, 6), 2, x.dispute(), 3,
             x.count(2), 0);
-        UpAllRound late = with(0, 0, 40, 0);
-        due.are("23 the last minute", text(late, 0, "(t>198)*5"), 1, late.dispute(), 200, text(late, 0, "(t>199)*5"), 1,
+        UpAllRound late = Make.with(0, 0, 40, 0);
+        due.are("23 the last minute", Make.text(late, 0, "(t>198)*5"), 1, late.dispute(), 200, Make.text(late, 0, "(t>199)*5"), 1,
             late.dispute(), NONE);
-        UpAllRound y = with(0, 0, 20, 4);
+        UpAllRound y = Make.with(0, 0, 20, 4);
         y.height(0, -4);
         due.are("23 alike when they meet first", y.meet(0, 1), 2, y.dispute(), 6);
     }
@@ -547,38 +516,38 @@ public final class PromisesTest {
     }
 
     private static void promise25() {
-        UpAllRound x = with(0, 0, 20, 0);
+        UpAllRound x = Make.with(0, 0, 20, 0);
         x.hide(2);
-        row(x, 0, 8, 1, 2, 3);
+        Make.sheet(x, 0, 8, 1, 2, 3);
         due.are("25", x.suspects(0, 0), 256 | 0xF8, x.suspects(1, 0), 0, x.suspects(2, 0), BEYOND, x.suspects(-1, 0), BEYOND,
             x.suspects(0, 4), BEYOND, x.suspects(0, -1), BEYOND, x.suspects(0, 1), NONE, x.suspects(2, 1), BEYOND,
             x.count(3), 2, x.count(2), 0);
-        row(x, 0, 8, 1, 1, 2);
+        Make.sheet(x, 0, 8, 1, 1, 2);
         due.is("25 that one", x.suspects(0, 0), 2);
-        row(x, 1, 32, -1, -2, -2, -3);
+        Make.sheet(x, 1, 32, -1, -2, -2, -3);
         due.is("25 down", x.suspects(1, 1), 1 << 5);
-        row(x, 2, 16);
+        Make.sheet(x, 2, 16);
         due.is("25 an empty sheet", x.suspects(0, 2), 511);
         x.rise(4, 0);
-        row(x, 3, 16, 1, 2, 3, 4, 4);
+        Make.sheet(x, 3, 16, 1, 2, 3, 4, 4);
         due.is("25 a level one", x.suspects(0, 3), 256 | 0xF0);
     }
 
     private static void promise26() {
-        UpAllRound x = with(0, 0, 20, 5);
+        UpAllRound x = Make.with(0, 0, 20, 5);
         due.are("26", x.best(0, 10, 0), 10, x.best(0, 10, 1), 10, x.best(0, 10, 2), 2, x.best(0, 0, 0), 0, x.best(0, 0, 2), 0,
             x.best(1, 10, 0), 0, x.best(1, 10, 1), 0, x.best(1, 10, 2), 5, x.best(0, 100, 0), 100, x.best(0, 101, 0), BEYOND,
             x.best(0, -1, 0), BEYOND, x.best(2, 0, 0), BEYOND, x.best(-1, 0, 0), BEYOND, x.best(0, 0, 3), BEYOND,
             x.best(0, 0, -1), BEYOND, x.count(2), 0);
-        text(x, 1, "s=6|c");
+        Make.text(x, 1, "s=6|c");
         due.are("26 the first", x.best(0, 100, 0), 1, x.best(0, 100, 1), 6, x.best(0, 100, 2), 6, x.best(1, 100, 1), 0);
-        text(x, 1, "s*100+h");
+        Make.text(x, 1, "s*100+h");
         x.rise(6, -9);
         due.are("26 by its height then", x.best(0, 7, 0), 697 + 0, x.best(0, 7, 1), 7);
     }
 
     private static void promise27() {
-        UpAllRound x = with(0, 0, 20, 4, 0, 4, 13, 0);
+        UpAllRound x = Make.with(0, 0, 20, 4, 0, 4, 13, 0);
         due.are("27", x.odds(0, 1, 0, 0), 1, x.odds(0, 1, 0, 1), 8, x.odds(0, 1, 1, 0), 1, x.odds(0, 1, 1, 1), 4,
             x.odds(0, 1, 3, 0), 1, x.odds(0, 1, 3, 1), 2, x.odds(0, 1, 2, 0), 3, x.odds(0, 1, 2, 1), 8,
             x.odds(0, 2, 100, 0), 1, x.odds(0, 2, 100, 1), 8, x.odds(0, 1, 100, 0), 1, x.odds(0, 1, 100, 1), 2,
@@ -592,7 +561,7 @@ public final class PromisesTest {
     }
 
     private static void promise28() {
-        UpAllRound x = with(5, 0, 13, 0, 27, 0, 38, 0, 49, 0, 52, 0);
+        UpAllRound x = Make.with(5, 0, 13, 0, 27, 0, 38, 0, 49, 0, 52, 0);
         due.are("28 porter", x.voice(0, 0, 7), 7, x.voice(0, 1, 7), 14, x.voice(0, 2, 7), 9, x.voice(0, 3, 17), 3,
             x.voice(0, 3, -17), -3);
         due.are("28 runner", x.voice(1, 0, 7), 4, x.voice(1, 1, 7), 8, x.voice(1, 2, 7), 5, x.voice(1, 3, 9), 4 + -4);
@@ -608,13 +577,13 @@ public final class PromisesTest {
         x.become(1, 11);
         due.are("28 parted", x.voice(2, 3, 7), PARTED, x.voice(1, 3, 7), PARTED, x.told(6), 2, x.voice(2, 4, 0), BEYOND,
             x.voice(2, -1, 0), BEYOND, x.voice(6, 0, 0), BEYOND, x.voice(-1, 3, 0), BEYOND);
-        UpAllRound y = with(0, 0, 0, 0);
+        UpAllRound y = Make.with(0, 0, 0, 0);
         due.are("28 wraps", y.voice(0, 1, MAX), -2, y.voice(1, 0, MAX), MIN, y.voice(1, 3, MIN), MIN,
             y.voice(0, 0, BEYOND), BEYOND, y.voice(0, 0, PARTED), PARTED, y.told(1), 0, y.told(6), 0);
     }
 
     private static void promise29() {
-        UpAllRound x = with(5, 0, 13, 0, 27, 0, 38, 0, 49, 0, 52, 0);
+        UpAllRound x = Make.with(5, 0, 13, 0, 27, 0, 38, 0, 49, 0, 52, 0);
         due.are("29 none yet", x.body(0), NONE, x.body(-1), NONE, x.count(7), 0);
         trace(x, 0, 0, 10);
         trace(x, 0, 1, 11, 10);
@@ -658,13 +627,13 @@ public final class PromisesTest {
             x.sheet(0, 8, 25), BEYOND, x.sheet(4, 8, -1), BEYOND, x.sheet(0, 9, -1), BEYOND, x.sheet(4, 0, 1), BEYOND,
             x.rises(0), NONE);
         x.climber(0, 0);
-        row(x, 0, 8, 5, 6);
+        Make.sheet(x, 0, 8, 5, 6);
         x.sheet(0, 8, 2);
         due.are("30 all 0 again", x.judge(0), 1, x.suspects(0, 0), 0, x.rises(0), 2, x.stepIs(1, 0), 0);
     }
 
     private static void promise31() {
-        UpAllRound x = with(0, 0);
+        UpAllRound x = Make.with(0, 0);
         x.sheet(0, 8, 2);
         x.sheet(1, 16, 2);
         x.sheet(2, 32, 2);
@@ -678,9 +647,9 @@ public final class PromisesTest {
 
     private static void promise32() {
         UpAllRound x = new UpAllRound();
-        row(x, 0, 8, 1, 2, 3, 4, 5);
-        row(x, 1, 8, 0, 0, 0);
-        row(x, 2, 16, 0, 0, 0);
+        Make.sheet(x, 0, 8, 1, 2, 3, 4, 5);
+        Make.sheet(x, 1, 8, 0, 0, 0);
+        Make.sheet(x, 2, 16, 0, 0, 0);
         due.are("32", x.move(0, 3, 1, 1, 2), 2, x.rises(1), 3, x.stepIs(0, 0), 0, x.stepIs(1, 0), 4, x.stepIs(2, 0), 5,
             x.move(0, 0, 0, 1, 4), 4, x.rises(0), 5, x.stepIs(0, 0), 1, x.stepIs(1, 0), 1, x.stepIs(2, 0), 2,
             x.stepIs(4, 0), 4, x.move(0, 1, 0, 0, 4), 4, x.rises(0), 5, x.stepIs(0, 0), 1, x.stepIs(1, 0), 2, x.stepIs(3, 0), 4,
@@ -695,11 +664,11 @@ public final class PromisesTest {
 
     private static void promise33() {
         UpAllRound x = new UpAllRound();
-        row(x, 0, 8, 9, -9, 0, 10, 5);
+        Make.sheet(x, 0, 8, 9, -9, 0, 10, 5);
         due.are("33", x.rises(0), 3, x.stepIs(0, 0), 9, x.stepIs(1, 0), -9, x.stepIs(2, 0), 0, x.stepIs(3, 0), 1,
             x.stepIs(4, 0), 1, x.put(0, 0, -10), 1, x.rises(0), 0, x.stepIs(0, 0), 9);
-        row(x, 1, 32, 2, 2, 2, 2, 2, 2, 2, 3, 4, 5);
-        row(x, 2, 16, 4, 5);
+        Make.sheet(x, 1, 32, 2, 2, 2, 2, 2, 2, 2, 3, 4, 5);
+        Make.sheet(x, 2, 16, 4, 5);
         due.are("33 fewer", x.rises(2), 2, x.stepIs(1, 0), 5, x.stepIs(2, 0), 0, x.rise(2, 1), 0, x.rises(2), 2, x.stepIs(2, 0), 1,
             x.sheet(2, 0, 0), 1);
         due.are("33 no step", x.rises(1), 8, x.stepIs(7, 0), 3, x.sheet(1, 32, 0), 1, x.rises(1), 0,
@@ -707,22 +676,22 @@ public final class PromisesTest {
     }
 
     private static void promise34() {
-        UpAllRound x = with(0, 3, 0, 0, 0, 7);
-        row(x, 0, 8, 3, 0, 7, 0);
+        UpAllRound x = Make.with(0, 3, 0, 0, 0, 7);
+        Make.sheet(x, 0, 8, 3, 0, 7, 0);
         due.are("34", x.judge(0), 3, x.put(0, 0, 4), 1, x.judge(0), 0, x.put(0, 0, 3), 1, x.put(0, 1, 1), 1, x.judge(0), 1,
             x.judge(1), NONE, x.judge(3), NONE, x.judge(4), BEYOND, x.judge(-1), BEYOND, x.climberIs(1, 2), 0);
-        row(x, 1, 8, 3);
+        Make.sheet(x, 1, 8, 3);
         due.are("34 fewer", x.judge(1), 1, x.sheet(1, 8, 0), 1, x.judge(1), 0);
     }
 
     private static void promise35and36() {
-        UpAllRound x = with(0, 3, 12, 4);
+        UpAllRound x = Make.with(0, 3, 12, 4);
         due.is("36 none", x.restore(), NONE);
         x.minutes(7);
         x.rise(2, 5);
         x.hide(3);
-        text(x, 0, "r+1");
-        feed(x, "r+2");
+        Make.text(x, 0, "r+1");
+        Make.feed(x, "r+2");
         x.tell(4);
         x.seed(99);
         int height = x.climberIs(0, 3);
@@ -735,7 +704,7 @@ public final class PromisesTest {
         x.hide(-1);
         x.untell(0);
         x.text(0);
-        text(x, 1, "7777");
+        Make.text(x, 1, "7777");
         x.check();
         x.tell(height);
         x.tell(4);
@@ -762,7 +731,7 @@ public final class PromisesTest {
     }
 
     private static void promise38() {
-        UpAllRound x = with(0, 0, 0, 0);
+        UpAllRound x = Make.with(0, 0, 0, 0);
         x.height(1, 5);
         due.are("38", x.check(), 0, x.tell(0), 1, x.tell(5), 2, x.check(), 0, x.count(6), 0, x.tell(0), 1, x.tell(4), 2,
             x.check(), 2, x.count(6), 0, x.tell(1), 1, x.check(), 1, x.tell(0), 1, x.tell(5), 2, x.tell(0), 3, x.check(), 3,
@@ -770,10 +739,10 @@ public final class PromisesTest {
     }
 
     private static void promise39() {
-        UpAllRound x = with(0, 3, 0, 3, 0, 3);
+        UpAllRound x = Make.with(0, 3, 0, 3, 0, 3);
         x.minutes(2);
         x.hide(6);
-        feed(x, "ab");
+        Make.feed(x, "ab");
         x.tell(1);
         x.voice(0, 1, 1);
         x.seed(-5);
