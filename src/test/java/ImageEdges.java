@@ -13,6 +13,7 @@ final class ImageEdges {
 
     void all() {
         image();
+        waitsAndTape();
         restore();
         tell();
         check();
@@ -80,6 +81,30 @@ final class ImageEdges {
         Make.text(later, 1, "4");
         e.are("what is done later is not in it", later.restore(), 0, later.stepIs(3, 0), 1, later.count(6), 0, later.count(5), 0,
             later.untell(0), 0, later.untell(1), 0);
+    }
+
+    /** What waits and what is on the tape, up to the last of each. */
+    private void waitsAndTape() {
+        e.promise(35, "All (but SHEETS, THE TRACE, what told() tells, and how often this was done) is kept as an IMAGE");
+        UpAllRound waits = high(0, 9999, -9999, 5, 5, -1);
+        int[] heights = {0, 9999, -9999, 5, 5, -1};
+        for (int height : heights) {
+            waits.tell(height);
+        }
+        waits.image();
+        e.is("all six wait and are so", waits.check(), 0);
+        for (int i = 0; i < 24; i++) {
+            waits.tell(77);
+        }
+        e.are("again", waits.restore(), 0, waits.count(6), 6, waits.check(), 0, waits.tell(77), 1, waits.check(), 1, waits.restore(), 0,
+            waits.check(), 0);
+        UpAllRound tape = new UpAllRound();
+        Make.feed(tape, "0+".repeat(29) + "37");
+        e.are("sixty bytes", tape.image(), 1, Make.text(tape, 0, ""), 1, Make.feed(tape, "4".repeat(60)), 60, tape.restore(), 0,
+            tape.count(5), 60, tape.untell(0), 0, tape.text(0), 1, tape.law(0, 0, 0, 0), 37);
+        UpAllRound full = Rich.waiting(24);
+        e.are("24 that wait", full.image(), 3, full.check(), 3, full.restore(), 9, full.count(6), 24, full.tell(0), Edges.LOW - Edges.FULL,
+            full.check(), 3);
     }
 
     private void restore() {

@@ -32,7 +32,10 @@ final class Rich {
         return x;
     }
 
-    /** The same with climbers 0 to 3, three bodies in the trace, and a second image that has climbers. */
+    /**
+     * The same with climbers 0 to 3, three bodies in the trace, and a second image that has climbers. Of the three
+     * numbers that wait, the third is the first that isn't so, now and in the image.
+     */
     static UpAllRound busy() {
         UpAllRound x = bare();
         x.climber(0, 0);
@@ -47,6 +50,8 @@ final class Rich {
         x.height(2, 8);
         x.rise(5, 9);
         x.minutes(1);
+        x.height(0, 5);
+        x.height(1, -6);
         return x;
     }
 

@@ -51,6 +51,8 @@ final class TextEdges {
         String sixty = "1+".repeat(29) + "r+";
         e.are("a text of sixty bytes", sixty.length(), 60, Make.gives(sixty.substring(0, 58) + "20", 0, 0, 0), 29 + 20,
             Make.gives(sixty.substring(0, 57) + "*70", 0, 0, 0), 28 + 70);
+        e.are("sixty bytes, each of which is worked out", Make.gives("!1" + "+1".repeat(29), 0, 0, 0), 29,
+            Make.gives("!0" + "+1".repeat(29), 0, 0, 0), 30);
         e.are("sixty bytes that end too early", Make.said(0, sixty), FAULT - 60);
         e.are("one byte", Make.said(0, "7"), 1, Make.said(0, "r"), 1);
         UpAllRound x = new UpAllRound();
