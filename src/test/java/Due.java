@@ -13,6 +13,7 @@ final class Due {
 
     /** Rows of answers and what is due: got, want, got, want, .. */
     void are(String what, long... rows) {
+        is(what + ": rows without what is due", rows.length % 2, 0);
         for (int i = 0; i + 1 < rows.length; i += 2) {
             is(what + " row " + (i / 2 + 1), rows[i], rows[i + 1]);
         }

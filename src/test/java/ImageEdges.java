@@ -52,7 +52,8 @@ final class ImageEdges {
     private void image() {
         e.promise(35, "All (but SHEETS, THE TRACE, what told() tells, and how often this was done) is kept as an IMAGE");
         UpAllRound first = new UpAllRound();
-        e.are("how often", first.image(), 1, first.image(), 2, first.restore(), 0, first.image(), 3, first.restore(), 0, first.image(), 4);
+        e.are("how often", first.image(), 1, first.image(), 2, first.restore(), 0, first.image(), 3, first.restore(), 0,
+            first.image(), 4);
         UpAllRound x = Rich.full();
         x.image();
         muddle(x);
@@ -96,14 +97,16 @@ final class ImageEdges {
         for (int i = 0; i < 24; i++) {
             waits.tell(77);
         }
-        e.are("again", waits.restore(), 0, waits.count(6), 6, waits.check(), 0, waits.tell(77), 1, waits.check(), 1, waits.restore(), 0,
+        e.are("again", waits.restore(), 0, waits.count(6), 6, waits.check(), 0, waits.tell(77), 1, waits.check(), 1,
+            waits.restore(), 0,
             waits.check(), 0);
         UpAllRound tape = new UpAllRound();
         Make.feed(tape, "0+".repeat(29) + "37");
         e.are("sixty bytes", tape.image(), 1, Make.text(tape, 0, ""), 1, Make.feed(tape, "4".repeat(60)), 60, tape.restore(), 0,
             tape.count(5), 60, tape.untell(0), 0, tape.text(0), 1, tape.law(0, 0, 0, 0), 37);
         UpAllRound full = Rich.waiting(24);
-        e.are("24 that wait", full.image(), 3, full.check(), 3, full.restore(), 9, full.count(6), 24, full.tell(0), Edges.LOW - Edges.FULL,
+        e.are("24 that wait", full.image(), 3, full.check(), 3, full.restore(), 9, full.count(6), 24, full.tell(0),
+            Edges.LOW - Edges.FULL,
             full.check(), 3);
     }
 
@@ -199,7 +202,8 @@ final class ImageEdges {
             x.tell(i);
         }
         x.voice(5, 2, 0);
-        e.are("most", x.count(0), 6, x.count(1), 14, x.count(3), 13, x.count(4), 15, x.count(5), 60, x.count(6), 24, x.count(7), 6,
+        e.are("most", x.count(0), 6, x.count(1), 14, x.count(3), 13, x.count(4), 15, x.count(5), 60, x.count(6), 24,
+            x.count(7), 6,
             x.count(8), Edges.LOW - 1, x.told(1), 0);
         e.is("the last minute", Make.after(9999, x).count(2), 9999);
         int[][] busy = {{0, 4}, {1, 6}, {2, 9}, {3, 3}, {5, 3}, {6, 3}, {7, 3}, {8, 99}};
@@ -233,6 +237,7 @@ final class ImageEdges {
         for (int i = 0; i < 25; i++) {
             each.tell(i);
         }
-        e.are("each by itself", each.told(1), 0, each.told(2), 1, each.told(3), 1, each.told(4), 1, each.told(5), 1, each.told(6), 1);
+        e.are("each by itself", each.told(1), 0, each.told(2), 1, each.told(3), 1, each.told(4), 1, each.told(5), 1,
+            each.told(6), 1);
     }
 }

@@ -381,7 +381,8 @@ public final class PromisesTest {
             late.minutes(200);
         }
         late.minutes(160);
-        due.are("17 late", late.loose(40), STATE, late.loose(41), BEYOND, late.count(8), 1, late.loose(39), 0, late.count(2), 9999);
+        due.are("17 late", late.loose(40), STATE, late.loose(41), BEYOND, late.count(8), 1, late.loose(39), 0,
+            late.count(2), 9999);
     }
 
     private static void promise18() {
@@ -655,7 +656,8 @@ public final class PromisesTest {
             x.stepIs(4, 0), 4, x.move(0, 1, 0, 0, 4), 4, x.rises(0), 5, x.stepIs(0, 0), 1, x.stepIs(1, 0), 2, x.stepIs(3, 0), 4,
             x.move(0, 0, 0, 0, 5), 5, x.move(1, 0, 0, 2, 3), 3, x.rises(0), 5, x.stepIs(1, 0), 2, x.stepIs(3, 0), 4,
             x.stepIs(4, 0), 5, x.move(0, 5, 1, 3, 0), 0, x.move(0, 0, 1, 0, 0), 0);
-        due.are("32 wrong", x.move(4, 0, 3, 0, -1), BEYOND, x.move(0, 0, -1, 0, 0), BEYOND, x.move(-1, 0, 0, 0, 0), BEYOND, x.move(0, 0, 4, 0, 0), BEYOND, x.move(0, 0, 3, 0, -1), NONE,
+        due.are("32 wrong", x.move(4, 0, 3, 0, -1), BEYOND, x.move(0, 0, -1, 0, 0), BEYOND, x.move(-1, 0, 0, 0, 0),
+            BEYOND, x.move(0, 0, 4, 0, 0), BEYOND, x.move(0, 0, 3, 0, -1), NONE,
             x.move(3, 0, 0, 0, -1), NONE, x.move(0, 0, 2, 0, -1), KIND, x.move(0, 0, 1, 0, -1), BEYOND,
             x.move(0, -1, 1, 0, 1), BEYOND, x.move(0, 0, 1, -1, 1), BEYOND, x.move(0, 0, 1, 0, 4), BEYOND,
             x.move(0, 5, 1, 0, 1), BEYOND, x.move(0, 0, 1, 3, 1), BEYOND, x.move(0, 6, 1, 0, 0), BEYOND,
@@ -669,7 +671,8 @@ public final class PromisesTest {
             x.stepIs(4, 0), 1, x.put(0, 0, -10), 1, x.rises(0), 0, x.stepIs(0, 0), 9);
         Make.sheet(x, 1, 32, 2, 2, 2, 2, 2, 2, 2, 3, 4, 5);
         Make.sheet(x, 2, 16, 4, 5);
-        due.are("33 fewer", x.rises(2), 2, x.stepIs(1, 0), 5, x.stepIs(2, 0), 0, x.rise(2, 1), 0, x.rises(2), 2, x.stepIs(2, 0), 1,
+        due.are("33 fewer", x.rises(2), 2, x.stepIs(1, 0), 5, x.stepIs(2, 0), 0, x.rise(2, 1), 0, x.rises(2), 2,
+            x.stepIs(2, 0), 1,
             x.sheet(2, 0, 0), 1);
         due.are("33 no step", x.rises(1), 8, x.stepIs(7, 0), 3, x.sheet(1, 32, 0), 1, x.rises(1), 0,
             x.rises(2), NONE, x.rises(4), BEYOND, x.rises(-1), BEYOND, x.told(1), 2);
@@ -711,7 +714,8 @@ public final class PromisesTest {
         x.sheet(0, 8, 3);
         due.are("36", x.restore(), 7, x.count(0), 2, x.count(2), 7, x.count(3), 3, x.count(5), 3, x.count(6), 1, x.count(8), 99,
             x.stepIs(2, 0), 5, x.climberIs(0, 0), 0, x.climberIs(0, 3), height, x.climberIs(1, 2), place,
-            x.law(0, 5, 0, 0), 6, x.law(1, 0, 5, 0), 5, x.judge(0), 0, x.text(0), 1, x.law(0, 5, 0, 0), 7, x.count(5), 0, x.check(), 1);
+            x.law(0, 5, 0, 0), 6, x.law(1, 0, 5, 0), 5, x.judge(0), 0, x.text(0), 1, x.law(0, 5, 0, 0), 7, x.count(5),
+            0, x.check(), 1);
         due.are("36 stays", x.minutes(3), 0, x.restore(), 7, x.restore(), 7, x.count(5), 3, x.minutes(1), 0, x.image(), 2,
             x.minutes(1), 0, x.restore(), 8, x.image(), 3, x.told(2), 1);
         UpAllRound y = new UpAllRound();
@@ -719,7 +723,8 @@ public final class PromisesTest {
         y.rise(11, 4);
         y.image();
         y.build(5);
-        due.are("36 steps", y.restore(), 0, y.count(1), 12, y.stepIs(11, 0), 4, y.climber(0, 11), 0, y.restore(), 0, y.count(0), 0);
+        due.are("36 steps", y.restore(), 0, y.count(1), 12, y.stepIs(11, 0), 4, y.climber(0, 11), 0, y.restore(), 0,
+            y.count(0), 0);
     }
 
     private static void promise37() {

@@ -56,9 +56,11 @@ final class SheetEdges {
             UpAllRound x = Rich.busy();
             e.are("bits " + bits, x.sheet(0, bits, 3), 1);
             holds("all 0 in place of numbers, " + bits, x, 0, 0, 0, 0);
-            e.are("none, then six", x.sheet(0, bits, 0), 1, x.rises(0), 0, x.put(0, 0, 0), Edges.LOW - Edges.BEYOND, x.sheet(0, bits, 6), 1);
+            e.are("none, then six", x.sheet(0, bits, 0), 1, x.rises(0), 0, x.put(0, 0, 0), Edges.LOW - Edges.BEYOND,
+                x.sheet(0, bits, 6), 1);
             holds("more than before, " + bits, x, 0, 0, 0, 0, 0, 0, 0);
-            e.are("what is in them", x.put(0, 0, 0x10008), 1, x.put(0, 1, 0x108), 1, x.rises(0), bits == 8 ? 6 : bits == 16 ? 1 : 0);
+            e.are("what is in them", x.put(0, 0, 0x10008), 1, x.put(0, 1, 0x108), 1, x.rises(0),
+                bits == 8 ? 6 : bits == 16 ? 1 : 0);
         }
         for (long n : new long[] {0, 24, 25, -1, Edges.MIN, Edges.MAX}) {
             e.takes(1, Rich::busy, "sheet", 1, 0, n);
@@ -104,8 +106,10 @@ final class SheetEdges {
         holds("16 bits", x, 1, 9, -9, -1, 0, -8, 9);
         Make.sheet(x, 2, 32, 9, -9, -1, 0, -8, 9);
         holds("32 bits", x, 2, 9, -9, -1, 0, -8, 9);
-        e.are("what does not fit in bits", x.put(1, 0, 255), 1, x.rises(1), 0, x.put(1, 0, 256), 1, x.rises(1), 0, x.put(2, 0, 65536), 1,
-            x.rises(2), 0, x.put(2, 0, 65535), 1, x.rises(2), 0, x.put(0, 0, 127), 1, x.rises(0), 0, x.put(0, 0, 128), 1, x.rises(0), 0);
+        e.are("what does not fit in bits", x.put(1, 0, 255), 1, x.rises(1), 0, x.put(1, 0, 256), 1, x.rises(1), 0,
+            x.put(2, 0, 65536), 1,
+            x.rises(2), 0, x.put(2, 0, 65535), 1, x.rises(2), 0, x.put(0, 0, 127), 1, x.rises(0), 0, x.put(0, 0, 128),
+            1, x.rises(0), 0);
         UpAllRound y = Make.with(0, 0);
         heightBy(y, 0, 8, 127, 127);
         heightBy(y, 0, 8, 128, -128);
@@ -116,7 +120,8 @@ final class SheetEdges {
         heightBy(y, 1, 16, Edges.MAX, -1);
         heightBy(y, 2, 32, -9999, -9999);
         int far = 1 << 30;
-        e.are("the least and the most of 32 bits", Make.sheet(y, 2, 32, Edges.MIN).judge(2), 0, Make.sheet(y, 2, 32, Edges.MAX).judge(2), 0,
+        e.are("the least and the most of 32 bits", Make.sheet(y, 2, 32, Edges.MIN).judge(2), 0,
+            Make.sheet(y, 2, 32, Edges.MAX).judge(2), 0,
             Make.sheet(y, 2, 32, far).judge(2), 0, Make.sheet(y, 2, 32, 0).judge(2), 1);
     }
 
@@ -177,7 +182,8 @@ final class SheetEdges {
         all.sheet(3, 32, 24);
         all.sheet(2, 32, 24);
         all.put(3, 0, -7);
-        e.are("all 24", all.move(3, 0, 2, 0, 24), 24, all.move(2, 0, 2, 23, 1), 1, all.move(2, 23, 3, 5, 1), 1, all.move(3, 1, 3, 0, 23), 23);
+        e.are("all 24", all.move(3, 0, 2, 0, 24), 24, all.move(2, 0, 2, 23, 1), 1, all.move(2, 23, 3, 5, 1), 1,
+            all.move(3, 1, 3, 0, 23), 23);
         holds("down by one", all, 3, 0, 0, 0, 0, -7, 0, 0, 0, 0, 0, 0, 0, 0, 0);
     }
 
@@ -239,7 +245,8 @@ final class SheetEdges {
         Make.sheet(x, 0, 16, 2, 2, 2, 2, 2, 2, 5, 10);
         e.are("for which there is no step", x.rises(0), 6, x.stepIs(5, 0), 2, x.count(1), 6, x.build(14), 6, x.stepIs(6, 0), 1);
         Make.sheet(x, 0, 16, 2, 2, 2, 2, 2, 2, 5, 10);
-        e.are("the step is ahead of the number", Make.sheet(Make.on(7), 0, 16, 2, 2, 2, 2, 2, 2, 5, 10).rises(0), 7, x.rises(0), 7);
+        e.are("the step is ahead of the number", Make.sheet(Make.on(7), 0, 16, 2, 2, 2, 2, 2, 2, 5, 10).rises(0), 7,
+            x.rises(0), 7);
         for (int wrong : new int[] {10, -10, 127, -128}) {
             UpAllRound y = Make.on(6);
             Make.sheet(y, 0, 8, 3, wrong, 5);

@@ -267,7 +267,8 @@ final class StairEdges {
         UpAllRound x = Make.with(0, 0, 35, 6);
         x.height(1, -12);
         for (int km = 0; km <= 69; km++) {
-            e.are("km " + km, x.become(1, km), km == 0 ? 3 : (km - 1) / 10, x.climberIs(1, 0), km / 10, x.climberIs(1, 1), km % 10);
+            e.are("km " + km, x.become(1, km), km == 0 ? 3 : (km - 1) / 10, x.climberIs(1, 0), km / 10,
+                x.climberIs(1, 1), km % 10);
         }
         e.are("the rest stays", x.climberIs(1, 2), 6, x.climberIs(1, 3), -12, x.climberIs(0, 0), 0, x.count(0), 2);
         e.promise(8, "BEYOND.");

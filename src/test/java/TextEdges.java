@@ -106,7 +106,8 @@ final class TextEdges {
         wrong("1+-1", 2);
         wrong("1--1", 2);
         wrong("1-", 2);
-        e.are("from the left", Make.gives("9-5-3", 0, 0, 0), 1, Make.gives("9-5+3", 0, 0, 0), 7, Make.gives("1-2*3", 0, 0, 0), -5);
+        e.are("from the left", Make.gives("9-5-3", 0, 0, 0), 1, Make.gives("9-5+3", 0, 0, 0), 7,
+            Make.gives("1-2*3", 0, 0, 0), -5);
         e.are("ahead of a comparison", Make.gives("1+1=2", 0, 0, 0), 1, Make.gives("3<1+1", 0, 0, 0), 0);
     }
 
@@ -143,8 +144,10 @@ final class TextEdges {
         wrong("1(1)", 1);
         wrong("!)", 1);
         wrong("u", 0);
-        e.are("digits", Make.gives("9999-9998", 0, 0, 0), 1, Make.gives("0010", 0, 0, 0), 10, Make.gives("9999/101", 0, 0, 0), 99);
-        e.are("! of the next one alone", Make.gives("!0+5", 0, 0, 0), 6, Make.gives("!0*0", 0, 0, 0), 0, Make.gives("!0=0", 0, 0, 0), 0,
+        e.are("digits", Make.gives("9999-9998", 0, 0, 0), 1, Make.gives("0010", 0, 0, 0), 10,
+            Make.gives("9999/101", 0, 0, 0), 99);
+        e.are("! of the next one alone", Make.gives("!0+5", 0, 0, 0), 6, Make.gives("!0*0", 0, 0, 0), 0,
+            Make.gives("!0=0", 0, 0, 0), 0,
             Make.gives("!5|5", 0, 0, 0), 1);
     }
 
@@ -175,13 +178,15 @@ final class TextEdges {
         wrong("((((1+!!1))))", 7);
         wrong("(((((", 5);
         wrong("!!!!!", 5);
-        e.are("worked out", Make.gives("!!!!!7", 0, 0, 0), 0, Make.gives("(((((7)))))", 0, 0, 0), 7, Make.gives("!!!!7", 0, 0, 0), 1);
+        e.are("worked out", Make.gives("!!!!!7", 0, 0, 0), 0, Make.gives("(((((7)))))", 0, 0, 0), 7,
+            Make.gives("!!!!7", 0, 0, 0), 1);
     }
 
     private void ints() {
         e.terms(2, "Ints that wrap; / cut, % the rest that it leaves, both by 0 are 0");
         e.are("wrap", Make.gives("r+1=s", Edges.MAX, Edges.MIN, 0), 1, Make.gives("r-1=s", Edges.MIN, Edges.MAX, 0), 1,
-            Make.gives("r*2=s", 1 << 30, Edges.MIN, 0), 1, Make.gives("r*r", 65536, 0, 0), 0, Make.gives("r*s=t", Edges.MIN, -1, Edges.MIN), 1,
+            Make.gives("r*2=s", 1 << 30, Edges.MIN, 0), 1, Make.gives("r*r", 65536, 0, 0), 0,
+            Make.gives("r*s=t", Edges.MIN, -1, Edges.MIN), 1,
             Make.gives("0-r=r", Edges.MIN, 0, 0), 1, Make.gives("9999*9999*9999=r", (int) (9999L * 9999 * 9999), 0, 0), 1);
         e.are("the least by -1", Make.gives("r/s=r", Edges.MIN, -1, 0), 1, Make.gives("r%s", Edges.MIN, -1, 0), 0,
             Make.gives("r/s=t", Edges.MAX, -1, -Edges.MAX), 1);
@@ -198,7 +203,8 @@ final class TextEdges {
         e.terms(2, "what is not 0 being true; all is worked out");
         for (int v : new int[] {1, 2, -1, Edges.MIN, Edges.MAX}) {
             e.are("true is " + v, Make.gives("r|0", v, 0, 0), 1, Make.gives("0|r", v, 0, 0), 1, Make.gives("r&1", v, 0, 0), 1,
-                Make.gives("1&r", v, 0, 0), 1, Make.gives("!r", v, 0, 0), 0, Make.gives("!!r", v, 0, 0), 1, Make.gives("r&0", v, 0, 0), 0);
+                Make.gives("1&r", v, 0, 0), 1, Make.gives("!r", v, 0, 0), 0, Make.gives("!!r", v, 0, 0), 1,
+                Make.gives("r&0", v, 0, 0), 0);
         }
         e.are("false is 0", Make.gives("0|0", 0, 0, 0), 0, Make.gives("1&0", 0, 0, 0), 0, Make.gives("!0", 0, 0, 0), 1,
             Make.gives("!!0", 0, 0, 0), 0);
@@ -261,7 +267,8 @@ final class TextEdges {
             x.law(0, 1, 2, 3), 1 + 4 + 3 - 1);
         e.are("the higher ones don't matter", x.feed(-256L | 'r', 1), 1, x.feed(0x7FFFFFFFFFFF0000L | Make.word("+1"), 2), 3,
             x.count(5), 3, x.text(0), 1, x.law(0, 7, 0, 0), 8);
-        e.are("the highest bit of the highest byte", x.feed(0x8000000000000000L | Make.word("1+1+1+1"), 8), 8, x.text(0), FAULT - 7);
+        e.are("the highest bit of the highest byte", x.feed(0x8000000000000000L | Make.word("1+1+1+1"), 8), 8,
+            x.text(0), FAULT - 7);
         for (int n = 1; n <= 8; n++) {
             e.is("bytes of 0, " + n, new UpAllRound().feed(0, n), n);
         }
@@ -305,7 +312,8 @@ final class TextEdges {
         e.refuses(Edges.BEYOND, () -> Rich.taped(60), "text", 2);
         UpAllRound x = new UpAllRound();
         Make.feed(x, "r*2");
-        e.are("the tape behind it", x.text(2), Edges.LOW - Edges.BEYOND, x.text(-1), Edges.LOW - Edges.BEYOND, x.count(5), 3, x.text(0), 1,
+        e.are("the tape behind it", x.text(2), Edges.LOW - Edges.BEYOND, x.text(-1), Edges.LOW - Edges.BEYOND,
+            x.count(5), 3, x.text(0), 1,
             x.law(0, 4, 0, 0), 8);
     }
 
@@ -321,7 +329,8 @@ final class TextEdges {
             e.are("use " + use, Make.text(x, use, "5+"), FAULT - 2, x.count(5), 0, x.law(0, 1, 1, 1), 7, x.law(1, 1, 1, 1), 8,
                 x.text(use), FAULT, x.law(0, 1, 1, 1), 7, x.law(1, 1, 1, 1), 8, x.told(1), 0);
             UpAllRound none = new UpAllRound();
-            e.are("no one ahead of use " + use, Make.text(none, use, "5+"), FAULT - 2, none.untell(use), 0, none.law(use, 3, 3, 3), 3);
+            e.are("no one ahead of use " + use, Make.text(none, use, "5+"), FAULT - 2, none.untell(use), 0,
+                none.law(use, 3, 3, 3), 3);
         }
     }
 

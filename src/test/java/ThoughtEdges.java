@@ -393,7 +393,8 @@ final class ThoughtEdges {
         e.refuses(Edges.NONE, Rich::busy, "suspects", 0, MISSING);
         e.refuses(Edges.NONE, () -> Make.with(0, 0), "suspects", 0, 0);
         UpAllRound gone = Rich.busy();
-        e.are("no more there", gone.sheet(0, 0, 0), 1, gone.suspects(0, 0), NONE, gone.sheet(0, 8, 0), 1, gone.suspects(0, 0), 127);
+        e.are("no more there", gone.sheet(0, 0, 0), 1, gone.suspects(0, 0), NONE, gone.sheet(0, 8, 0), 1,
+            gone.suspects(0, 0), 127);
     }
 
     private void best() {

@@ -68,7 +68,8 @@ final class VoiceEdges {
 
     private void porter() {
         e.terms(4, "BODIES: Porter: 10 pants: x + k.");
-        e.are("wraps", saidBy1(0, 0, Edges.MAX), Edges.MIN, saidBy1(0, 0, Edges.MIN), Edges.MIN + 1, saidBy1(0, 0, Edges.MAX - 1), Edges.MAX,
+        e.are("wraps", saidBy1(0, 0, Edges.MAX), Edges.MIN, saidBy1(0, 0, Edges.MIN), Edges.MIN + 1,
+            saidBy1(0, 0, Edges.MAX - 1), Edges.MAX,
             saidBy1(0, 0, -1), 0);
         traces(0, 0, 10);
         e.terms(4, "11 counts: pants(x) * 2.");
@@ -76,7 +77,8 @@ final class VoiceEdges {
             said(0, 1, -HALF - 1), Edges.MAX - 1, said(0, 1, Edges.MAX), -2, said(0, 1, Edges.MIN), 0);
         traces(0, 1, 11, 10);
         e.terms(4, "12 swears: counts(x) - m.");
-        e.are("wraps", said(9, 2, HALF), Edges.MAX - 8, said(2, 2, -HALF), Edges.MAX - 1, said(0, 2, HALF), Edges.MIN, said(9, 2, 0), -9);
+        e.are("wraps", said(9, 2, HALF), Edges.MAX - 8, said(2, 2, -HALF), Edges.MAX - 1, said(0, 2, HALF), Edges.MIN,
+            said(9, 2, 0), -9);
         traces(0, 2, 12, 11, 10);
     }
 
@@ -85,18 +87,21 @@ final class VoiceEdges {
         e.are("by 1 and -1", said(1, 3, 7), 7, saidBy1(0, 3, 7), -7, saidBy1(2, 3, 7), 7, saidBy1(0, 3, Edges.MIN), Edges.MIN,
             saidBy1(0, 3, Edges.MAX), -Edges.MAX, said(1, 3, Edges.MIN), Edges.MIN);
         e.are("by 0", said(0, 3, 7), PARTED, saidBy1(1, 3, 7), PARTED, said(0, 3, 0), PARTED, saidBy1(1, 3, Edges.MIN), PARTED);
-        e.are("a quotient of 0 is none", said(9, 3, 8), 0, said(9, 3, 0), 0, said(9, 3, -8), 0, said(9, 3, 9), 1, said(9, 3, -9), -1,
+        e.are("a quotient of 0 is none", said(9, 3, 8), 0, said(9, 3, 0), 0, said(9, 3, -8), 0, said(9, 3, 9), 1,
+            said(9, 3, -9), -1,
             said(9, 3, -10), -1);
         traces(0, 3, 13);
     }
 
     private void runner() {
         e.terms(4, "Runner: 20 pants: super.pants(x) - 4.");
-        e.are("wraps", said(10, 0, Edges.MIN), Edges.MAX - 3, said(10, 0, Edges.MIN + 3), Edges.MAX, said(10, 0, Edges.MIN + 4), Edges.MIN,
+        e.are("wraps", said(10, 0, Edges.MIN), Edges.MAX - 3, said(10, 0, Edges.MIN + 3), Edges.MAX,
+            said(10, 0, Edges.MIN + 4), Edges.MIN,
             saidBy1(10, 0, Edges.MAX), Edges.MAX - 3);
         traces(10, 0, 20, 10);
         e.terms(4, "21 parts: super.parts(x) + counts(1).");
-        e.are("parts", said(11, 3, 7), 7 + (1 - 4) * 2, saidBy1(13, 3, 7), 3 + (1 + 1 - 4) * 2, said(11, 3, Edges.MIN), Edges.MAX - 5,
+        e.are("parts", said(11, 3, 7), 7 + (1 - 4) * 2, saidBy1(13, 3, 7), 3 + (1 + 1 - 4) * 2, said(11, 3, Edges.MIN),
+            Edges.MAX - 5,
             said(10, 3, 7), PARTED, saidBy1(11, 3, 7), PARTED);
         traces(10, 3, 21, 13, 11, 20, 10);
     }
@@ -111,14 +116,16 @@ final class VoiceEdges {
 
     private void drunk() {
         e.terms(4, "Drunk: 40 swears: super.swears(x / 2).");
-        e.are("cut", said(33, 2, 7), 6 - 3, said(33, 2, -7), -6 - 3, said(33, 2, 1), -3, said(33, 2, -1), -3, said(30, 2, Edges.MIN), Edges.MIN,
+        e.are("cut", said(33, 2, 7), 6 - 3, said(33, 2, -7), -6 - 3, said(33, 2, 1), -3, said(33, 2, -1), -3,
+            said(30, 2, Edges.MIN), Edges.MIN,
             said(30, 2, Edges.MAX), Edges.MAX - 1);
         traces(30, 2, 40, 12, 11, 10);
     }
 
     private void skipper() {
         e.terms(4, "Skipper: 50 pants: super.pants(x) * 3.");
-        e.are("wraps", said(40, 0, 7), 9, said(40, 0, HALF + 4), 3 * HALF, said(40, 0, Edges.MIN + 4), Edges.MIN, said(40, 0, 4), 0);
+        e.are("wraps", said(40, 0, 7), 9, said(40, 0, HALF + 4), 3 * HALF, said(40, 0, Edges.MIN + 4), Edges.MIN,
+            said(40, 0, 4), 0);
         traces(40, 0, 50, 20, 10);
         e.terms(4, "51 swears: super.swears(x) ^ k.");
         UpAllRound x = Make.with(0, 0, 0, 0, 0, 0, 0, 0, 0, 0, 42, 0);
