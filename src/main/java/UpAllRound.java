@@ -959,24 +959,25 @@ public final class UpAllRound {
             return readLevel(0, 0) && place == length;
         }
 
-        /** Levels 0 to 4 are T, A, B, S, P. */
+        /** Levels 0 to 4 are T, A, B, S, P: parts of the next level, joined by signs of this one. */
         private boolean readLevel(int level, int open) {
-            if (level >= INNERMOST) {
-                return readQ(open);
-            }
-            if (!readLevel(level + 1, open)) {
+            if (!readPart(level, open)) {
                 return false;
             }
             int most = level == COMPARES ? 1 : MOST_TAPE;
             for (int i = 0; i < most && place < length && levelOf(tape[place]) == level; i++) {
                 int sign = tape[place];
                 place++;
-                if (!readLevel(level + 1, open)) {
+                if (!readPart(level, open)) {
                     return false;
                 }
                 law.add(-sign);
             }
             return true;
+        }
+
+        private boolean readPart(int level, int open) {
+            return level + 1 < INNERMOST ? readLevel(level + 1, open) : readQ(open);
         }
 
         private boolean readQ(int open) {
@@ -1091,34 +1092,37 @@ public final class UpAllRound {
             }
             int number = find(from, which);
             begin(number);
-            int next = deep + 1;
+            return sayBody(number, x, deep + 1);
+        }
+
+        private int sayBody(int number, int x, int deep) {
             switch (number) {
                 case 10:
                     return x + k;
                 case 11:
-                    return say(kind, PANTS, x, next) * 2;
+                    return say(kind, PANTS, x, deep) * 2;
                 case 12:
-                    return say(kind, COUNTS, x, next) - m;
+                    return say(kind, COUNTS, x, deep) - m;
                 case 13:
                     return part(x);
                 case 20:
-                    return say(PORTER, PANTS, x, next) - 4;
+                    return say(PORTER, PANTS, x, deep) - 4;
                 case 21:
-                    return say(PORTER, PARTS, x, next) + say(kind, COUNTS, 1, next);
+                    return say(PORTER, PARTS, x, deep) + say(kind, COUNTS, 1, deep);
                 case 30:
-                    return 0 - say(PORTER, COUNTS, x, next);
+                    return 0 - say(PORTER, COUNTS, x, deep);
                 case 40:
-                    return say(PORTER, SWEARS, x / 2, next);
+                    return say(PORTER, SWEARS, x / 2, deep);
                 case 50:
-                    return say(RUNNER, PANTS, x, next) * 3;
+                    return say(RUNNER, PANTS, x, deep) * 3;
                 case 51:
-                    return say(RUNNER, SWEARS, x, next) ^ k;
+                    return say(RUNNER, SWEARS, x, deep) ^ k;
                 case 60:
-                    return say(DESCENDER, COUNTS, x + 1, next);
+                    return say(DESCENDER, COUNTS, x + 1, deep);
                 case 70:
                     return 9;
                 case 71:
-                    return say(PORTER, COUNTS, x, next) + m;
+                    return say(PORTER, COUNTS, x, deep) + m;
                 default:
                     return 0;
             }

@@ -8,6 +8,7 @@ import java.nio.file.Path;
 import java.util.ArrayList;
 import java.util.List;
 import java.util.Map;
+import java.util.Set;
 import java.util.TreeMap;
 import java.util.TreeSet;
 import java.util.regex.Matcher;
@@ -18,6 +19,10 @@ public final class FaceTest {
     private static final Path DOCUMENT = Path.of("../shared/DOC.md");
     private static final Path SOURCE = Path.of("src/main/java/UpAllRound.java");
     private static final int LONGEST_METHOD = 60;
+    private static final int MOST_CLASSES = 12;
+    private static final int MOST_FIELDS = 20;
+    private static final Set<Class<?>> STILL =
+        Set.of(int.class, long.class, boolean.class, char.class, String.class, int[].class, long[].class, char[].class, byte[].class);
 
     private static final Due due = new Due();
 
@@ -62,9 +67,8 @@ public final class FaceTest {
         due.is("the class", UpAllRound.class.getModifiers(), Modifier.PUBLIC | Modifier.FINAL);
         Constructor<?>[] all = UpAllRound.class.getDeclaredConstructors();
         due.are("constructors", all.length, 1, all[0].getParameterCount(), 0, all[0].getModifiers(), Modifier.PUBLIC);
-        for (Field f : UpAllRound.class.getDeclaredFields()) {
-            due.is(f.getName() + " is private", Modifier.isPrivate(f.getModifiers()) ? 1 : 0, 1);
-        }
+        due.is("few classes inside", UpAllRound.class.getDeclaredClasses().length <= MOST_CLASSES ? 1 : 0, 1);
+        fields(UpAllRound.class);
         for (Method m : UpAllRound.class.getDeclaredMethods()) {
             due.is(m.getName() + " of few parameters", m.getParameterCount() <= 7 ? 1 : 0, 1);
         }
@@ -74,16 +78,34 @@ public final class FaceTest {
         String name = inside.getSimpleName();
         due.is(name + " is static", Modifier.isStatic(inside.getModifiers()) ? 1 : 0, 1);
         due.is(name + " is not public", inside.getModifiers() & (Modifier.PUBLIC | Modifier.PROTECTED), 0);
-        int fields = 0;
-        for (Field f : inside.getDeclaredFields()) {
-            fields += Modifier.isStatic(f.getModifiers()) ? 0 : 1;
-            boolean still = !Modifier.isStatic(f.getModifiers()) || Modifier.isFinal(f.getModifiers());
-            due.is(name + "." + f.getName() + " if static is final", still ? 1 : 0, 1);
-        }
-        due.is(name + " has few fields", fields <= 20 ? 1 : 0, 1);
+        fields(inside);
         for (Method m : inside.getDeclaredMethods()) {
             due.is(name + "." + m.getName() + " has no public one's name", face.containsKey(m.getName()) ? 1 : 0, 0);
             due.is(name + "." + m.getName() + " of few parameters", m.getParameterCount() <= 7 ? 1 : 0, 1);
+        }
+    }
+
+    private static void fields(Class<?> of) {
+        int fields = 0;
+        for (Field f : of.getDeclaredFields()) {
+            String name = of.getSimpleName() + "." + f.getName();
+            due.is(name + " is private", Modifier.isPrivate(f.getModifiers()) ? 1 : 0, 1);
+            if (Modifier.isStatic(f.getModifiers())) {
+                boolean still = Modifier.isFinal(f.getModifiers()) && STILL.contains(f.getType());
+                due.is(name + " is a constant", still ? 1 : 0, 1);
+            } else {
+                fields++;
+            }
+        }
+        due.is(of.getSimpleName() + " has few fields", fields <= MOST_FIELDS ? 1 : 0, 1);
+    }
+
+    /** What is called of the library stands on the list of rule 4. */
+    private static void library(String code) {
+        Set<String> listed = Set.of("System.arraycopy", "Arrays.fill", "Math.min", "Math.max", "Math.floorMod", "Integer.compare");
+        Matcher m = Pattern.compile("\\b([A-Z]\\w*\\.\\w+)\\(").matcher(code);
+        while (m.find()) {
+            due.is(m.group(1) + " is listed", listed.contains(m.group(1)) ? 1 : 0, 1);
         }
     }
 
@@ -101,6 +123,7 @@ public final class FaceTest {
         due.is("what is made is made with the object", count(code, "\\bnew\\b"),
             count(code, "(?m)^ +private final [\\w\\[\\]]+ \\w+ = new [^;]+;$"));
         due.is("no call has no end", count(code, "while \\(true|for \\(;;"), 0);
+        library(code);
         methods(whole);
     }
 
